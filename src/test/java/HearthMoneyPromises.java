@@ -115,6 +115,32 @@ public final class HearthMoneyPromises {
         due("LINES behind " + text, x.count(3), lines);
     }
 
+    /** A line that breaks off behind any of its things, at the text's end or ahead of another line. */
+    private static void brokenOff(boolean law, String line, int needed) {
+        String[] things = line.split(" ");
+        String begun = "";
+        for (int i = 0; i < needed; i++) {
+            begun = begun + (i == 0 ? "" : " ") + things[i];
+            if (i + 1 < needed && law) {
+                wrongLaw(begun, begun.length());
+                wrongLaw(begun + " ;free", begun.length() + 1);
+            } else if (i + 1 < needed) {
+                wrongParish(begun, begun.length());
+                wrongParish(begun + " ;rate 1", begun.length() + 1);
+            }
+        }
+    }
+
+    /** The last number of a line may be the bounds and nothing beyond them. */
+    private static void bounds(String line, int low, int high) {
+        rightParish(line.replace("#", low + ""));
+        rightParish(line.replace("#", high + ""));
+        wrongParish(line.replace("#", high + 1 + ""), line.indexOf('#'));
+        if (low > 0) {
+            wrongParish(line.replace("#", low - 1 + ""), line.indexOf('#'));
+        }
+    }
+
     private static final String TWO = "house 100 windows 9 tells 20;house 50 windows 3 paper;"
         + "hearth fire of 0 flue 1 warm 3 wall 4;hearth oven of 0 flue 1 warm 1 wall 2;"
         + "hearth pot of 1 flue 7 warm 9 wall 30";
@@ -228,6 +254,31 @@ public final class HearthMoneyPromises {
         wrongParish(repeat("bed 1", 14) + ";?", 84);
         wrongParish(repeat("bed 1", 14) + ";  bed 1", 86);
         wrongParish(repeat("house 1 windows 1", 5) + ";  house 9000", 92);
+        brokenOff(false, "house 1 windows 1", 4);
+        brokenOff(false, "sees 1 0", 3);
+        brokenOff(false, "hearth fire of 0 flue 1 warm 1 wall 1", 10);
+        for (String word : new String[] {"rate", "fine", "visit", "bed", "quarter"}) {
+            brokenOff(false, word + " 1", 2);
+        }
+        wrongParish("house 1 windows 1 tells ;rate 1", 24);
+        bounds("rate #", 0, 20);
+        bounds("fine #", 0, 50);
+        bounds("visit #", 0, 100);
+        bounds("bed #", 0, 20);
+        bounds("quarter #", 0, 999);
+        bounds("house # windows 1", 0, 999);
+        bounds("house 1 windows #", 0, 30);
+        bounds("house 1 windows 1 paper tells #", 0, 100);
+        bounds("sees # 0", 0, 4);
+        bounds("sees 0 #", 0, 0);
+        bounds("hearth fire of # flue 1 warm 1 wall 1", 0, 0);
+        bounds("hearth fire of 0 flue # warm 1 wall 1", 0, 9);
+        bounds("hearth fire of 0 flue 1 warm # wall 1", 1, 9);
+        bounds("hearth fire of 0 flue 1 warm 1 wall #", 1, 30);
+        wrongParish("hearth fire of fire", 15);
+        wrongParish(repeat("hearth fire of 0 flue 1 warm 1 wall 1", 6) + ";hearth pot of 0 ", 15 + 6 * 38 - 1);
+        wrongParish("ratez 1", 0);
+        wrongParish("zrate 1", 0);
         HearthMoney full = of(repeat("house 1 windows 1", 2) + ";" + repeat("hearth fire of 0 flue 1 warm 1 wall 1", 6));
         due("six more", parish(full, repeat("hearth fire of 1 flue 1 warm 1 wall 1", 6)), 2);
         due("a 13th", parish(full, " hearth pott"), ARGUMENT);
@@ -289,6 +340,24 @@ public final class HearthMoneyPromises {
         wrongLaw("free if notpot", 8);
         wrongLaw("find 5 if warm > ", 17);
         wrongLaw("rate 5", 0);
+        wrongLaw("tax 100", 4);
+        wrongLaw("find 100", 5);
+        rightLaw("tax 0;tax 99;find 0;find 99", 4);
+        brokenOff(true, "tax 1", 2);
+        brokenOff(true, "find 1", 2);
+        for (String line : new String[] {"free if not not pot", "free if ( ( not pot ) )", "free if pot and pot or pot", "free if 1 + warm + 2 < house + 5"}) {
+            String[] things = line.split(" ");
+            int at = 0;
+            for (int i = 1; i < things.length; i++) {
+                at += things[i - 1].length() + 1;
+                String begun = line.substring(0, at - 1);
+                boolean whole = begun.endsWith("free") || begun.endsWith("pot") && begun.indexOf('(') < 0 || begun.endsWith("house");
+                if (!whole) {
+                    wrongLaw(begun, begun.length());
+                    wrongLaw(begun + ";free", begun.length());
+                }
+            }
+        }
         wrongLaw("tax 0001", 4);
         HearthMoney x = of(TWO);
         due("law", law(x, "tax 3 if fire;free if paper"), 2);
@@ -436,6 +505,8 @@ public final class HearthMoneyPromises {
         due("hide(0)", ask(() -> x.hide(0)), STATE);
         due("hide(1)", ask(() -> x.hide(1)), 1);
         due("hide(2)", ask(() -> x.hide(2)), STATE);
+        HearthMoney y = of("house 3 windows 0;bed 3;hearth fire of 0 flue 0 warm 1 wall 1");
+        due("all of PURSE", ask(() -> y.hide(0)), 0);
         x.wall(2);
         x.give(0, 9);
         due("a walled up one", ask(() -> x.hide(2)), STATE);
@@ -706,8 +777,11 @@ public final class HearthMoneyPromises {
         due("101", x.broke(1), NONE);
         due("now", x.broke(2), 0);
         due("never", x.broke(3), NONE);
-        law(x, "tax 98 if quarter > 10");
+        law(x, "tax 98 if quarter > 10;find 99;find 1");
         due("by quarters", x.broke(0), 13);
+        x.hide(0);
+        due("no man comes", x.broke(0), NONE);
+        x.undo();
         due("broke(4)", ask(() -> x.broke(4)), BOUNDS);
         due("broke(-1)", ask(() -> x.broke(-1)), BOUNDS);
         due("nothing stays", x.count(4), 0);
@@ -777,6 +851,9 @@ public final class HearthMoneyPromises {
         due("first(0)", ask(() -> x.first(0)), ARGUMENT);
         due("first(10000)", ask(() -> x.first(10000)), ARGUMENT);
         due("first(9999)", x.first(9999), NONE);
+        law(x, "find 99;find 1");
+        x.hide(0);
+        due("no man comes", x.first(12), NONE);
     }
 
     private static void p34() {
@@ -940,6 +1017,19 @@ public final class HearthMoneyPromises {
         due("the latest", x.log(0, 0), 75);
         due("the oldest", x.log(59, 0), 16);
         due("beyond", x.log(60, 0), NONE);
+        x.hide(0);
+        x.hide(1);
+        x.quarters(1);
+        due("the latest", x.log(0, 0), 76);
+        due("the oldest", x.log(59, 0), 18);
+        x.undo();
+        due("the latest as it was", x.log(0, 0), 75);
+        due("the oldest as it was", x.log(59, 0), 16);
+        due("its HEARTH", x.log(59, 1), 1);
+        x.image();
+        x.quarters(1);
+        x.back();
+        due("the oldest of the image", x.log(59, 0), 16);
     }
 
     private static void p43() {
@@ -1012,7 +1102,9 @@ public final class HearthMoneyPromises {
         due("none are remembered", x.count(14), 0);
         due("the TAPE stays", x.end(20), true);
         x.give(1, 5);
+        due("an act", x.count(14), 1);
         due("once more", x.back(), true);
+        due("it is not remembered", x.undo(), false);
         due("PURSE", x.house(1, 0), 999);
         x.rate(9);
         x.image();
