@@ -445,6 +445,10 @@ public final class HearthMoneyPromises {
         due("HEARTHS", x.house(0, 10), 3);
         x.wall(2);
         due("SHARE of nothing", x.house(1, 9), 0);
+        HearthMoney y = of("house 9 windows 0;rate 0;fine 3;hearth fire of 0 flue 0 warm 1 wall 1");
+        law(y, "find 33");
+        y.hide(0);
+        due("HOPES of 99 hundredths", y.house(0, 6), 0);
         due("what 11", ask(() -> x.house(0, 11)), ELEMENT);
         due("what -1", ask(() -> x.house(0, -1)), ELEMENT);
         due("house 3", ask(() -> x.house(3, 11)), BOUNDS);
@@ -593,6 +597,11 @@ public final class HearthMoneyPromises {
         due("found by 13, not by 15", y.hidden(), 2);
         due("QUARTER", y.log(0, 0), 0);
         due("TAX then", y.log(0, 3), 2);
+        HearthMoney u = of("house 50 windows 0 tells 59;visit 38;hearth fire of 0 flue 0 warm 1 wall 1");
+        law(u, "find 13");
+        u.hide(0);
+        u.quarters(1);
+        due("13 is not below 13", u.hidden(), 1);
         HearthMoney z = of("house 50 windows 0 tells 58;visit 38;hearth fire of 0 flue 0 warm 1 wall 1");
         law(z, "find 99;find 1");
         z.hide(0);
@@ -661,6 +670,10 @@ public final class HearthMoneyPromises {
         due("brings(21)", ask(() -> x.brings(21)), ARGUMENT);
         due("brings(-1)", ask(() -> x.brings(-1)), ARGUMENT);
         due("RATE", x.count(5), 10);
+        x.give(0, 9);
+        x.wall(0);
+        law(x, "tax 2");
+        due("by the law and the walls of now", x.brings(3), 5);
     }
 
     private static void p21() {
@@ -969,6 +982,12 @@ public final class HearthMoneyPromises {
         due("span(101)", ask(() -> x.span(101, false)), ARGUMENT);
         due("span(-1)", ask(() -> x.span(-1, false)), ARGUMENT);
         due("SEED stays", x.seed(1), 77);
+        // From SEED 1 to 7 TAKEN is 29, 31, 13, 17, 9, 7, 0.
+        HearthMoney z = of("house 999 windows 0;visit 24;hearth fire of 0 flue 0 warm 1 wall 1");
+        law(z, "find 40");
+        z.hide(0);
+        due("SEED 6 is the last", z.span(13, false), 7);
+        due("SEED 2 brings the most", z.span(13, true), 31);
     }
 
     private static HearthMoney found() {
