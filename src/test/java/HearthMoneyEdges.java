@@ -557,6 +557,8 @@ public final class HearthMoneyEdges {
                 due(parts[i] + " is " + are[i], x.hearth(0, 6), 11);
                 law(x, "tax 9 if " + parts[i] + " > " + are[i] + " or " + parts[i] + " < " + are[i]);
                 due(parts[i] + " is nothing else", x.hearth(0, 6), 2);
+                law(x, "tax 9 if " + are[i] + " < " + parts[i]);
+                due(parts[i] + " is not more", x.hearth(0, 6), 2);
             }
             law(x, "tax 9 if house+flue+warm+hearths+windows+quarter+7<29 and 27<7+quarter+windows+hearths+warm+flue+house");
             due("all together", x.hearth(0, 6), 11);
@@ -1000,8 +1002,10 @@ public final class HearthMoneyEdges {
             due("60", x.log(59, 0), 2);
             x.back();
             due("gone back: rows", x.count(13), 12);
-            due("gone back", x.log(0, 1), 11);
-            due("gone back", x.log(11, 1), 0);
+            for (int what = 0; what < 4; what++) {
+                due("gone back", x.log(0, what), new int[] {0, 11, 1, 2}[what]);
+                due("gone back", x.log(11, what), new int[] {0, 0, 0, 2}[what]);
+            }
             x.quarters(1);
             due("goes on behind it", x.log(0, 1), 3);
             due("and keeps the others", x.log(1, 1), 11);
@@ -1209,6 +1213,7 @@ public final class HearthMoneyEdges {
             HearthMoney x = of("house 9 windows 0;house 9 windows 0;house 9 windows 0;" + hearths(0, 1) + ";" + hearths(1, 3)
                 + ";hearth pot of 1 flue 9 warm 1 wall 1");
             due("no HEARTH: one set", look(x, 2), NONE);
+            due("two sets, a HEARTH of another HOUSE ahead", look(of(houses(2) + ";" + hearths(0, 1) + ";" + hearths(1, 1)), 1), 1);
             due("one HEARTH: two sets", look(x, 0), 0);
             due("one set", look(x, 0, 0, 1), NONE);
             due("no set", look(x, 0, 1, 1), NONE);
