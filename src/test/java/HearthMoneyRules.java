@@ -166,9 +166,61 @@ public final class HearthMoneyRules {
         }
     }
 
+    private static void tell(HearthMoney x, String text) {
+        x.end(0);
+        for (int at = 0; at < text.length(); at += 20) {
+            int[] n = new int[5];
+            for (int i = 0; i < 20; i++) {
+                n[i / 4] = n[i / 4] << 8 | (at + i < text.length() ? text.charAt(at + i) : 0);
+            }
+            x.feed(n[0], n[1], n[2], n[3], n[4]);
+        }
+        x.end(text.length());
+    }
+
+    private static String answerOf(HearthMoney x, String name, String written) throws IllegalAccessException {
+        List<Object> given = new ArrayList<>();
+        for (String one : written.isEmpty() ? new String[0] : written.split(", ")) {
+            given.add(one.matches("true|false") ? (Object) Boolean.valueOf(one) : (Object) Integer.valueOf(one));
+        }
+        for (Method m : HearthMoney.class.getMethods()) {
+            if (m.getName().equals(name) && m.getDeclaringClass() == HearthMoney.class) {
+                try {
+                    return String.valueOf(m.invoke(x, given.toArray()));
+                } catch (java.lang.reflect.InvocationTargetException e) {
+                    return "throws " + e.getCause().getClass().getSimpleName();
+                }
+            }
+        }
+        return "no such call";
+    }
+
+    /** README.md names each call, and what stands behind the calls of its example is what they answer. */
+    private static void checkReadme() throws Exception {
+        String readme = Files.readString(Path.of("README.md"));
+        for (String head : FACE.strip().split("\n")) {
+            String name = head.replaceAll("\\w+ (\\w+)\\(.*", "$1");
+            rule(readme.contains("`" + name + "`"), "README.md names " + name);
+        }
+        var steps = java.util.regex.Pattern.compile("tell\\(x, \"(.*)\"\\);|x\\.(\\w+)\\((.*)\\); +// (.*)").matcher(readme);
+        HearthMoney x = new HearthMoney();
+        int calls = 0;
+        while (steps.find()) {
+            if (steps.group(1) != null) {
+                tell(x, steps.group(1));
+            } else {
+                calls++;
+                String answer = answerOf(x, steps.group(2), steps.group(3));
+                rule(answer.equals(steps.group(4)), "README.md: " + steps.group() + ", but it is " + answer);
+            }
+        }
+        rule(calls >= 15, "README.md has an example");
+    }
+
     public static void main(String[] args) throws Exception {
         checkFace();
         checkSource();
+        checkReadme();
         System.out.println(wrong == 0 ? "all rules are kept" : wrong + " rules are not kept");
         if (wrong != 0) {
             System.exit(1);
